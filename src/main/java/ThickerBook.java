@@ -19,7 +19,8 @@ public final class ThickerBook {
 
     private static final int READER = 0, THIN = 1, WANTING = 2, STILL = 3, STEPPING = 4, GLUING = 5, TOLD = 6;
     private static final int KINDS = 7;
-    private static final int[] ABOVE = {-1, READER, READER, READER, THIN, WANTING, STILL};
+    // The KIND above each KIND.
+    private static final int[] ABOVE = {-1, 0, 0, 0, 1, 2, 3};
 
     private final World now = new World();
     // All that is asked is tried out in this copy, so that asking changes nothing.
@@ -606,9 +607,6 @@ public final class ThickerBook {
             put(kind, readers, itsKind);
             put(v, readers, itsV);
             put(has, readers, ABSENT);
-            for (int k = 0; k < ROW; k++) {
-                put(rows, readers * ROW + k, 0);
-            }
             readers++;
         }
 

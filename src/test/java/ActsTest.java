@@ -13,6 +13,7 @@ public final class ActsTest {
         imageOfAll();
         imageAgain();
         imageKeepsTowns();
+        imageKeepsWhatIsSeen();
         count();
         DUE.end();
     }
@@ -114,7 +115,7 @@ public final class ActsTest {
         x.row(0, 2, 5);
         x.pass(7);
         x.see(0, 1, true);
-        x.plan(3, 0);
+        x.plan(1, 0);
         x.note(0, 0);
         x.feed('g');
         DUE.is("image()", x.image(), 2);
@@ -134,6 +135,9 @@ public final class ActsTest {
         DUE.is("the ROW", x.likes(0, 0), 5 + 1);
         DUE.is("SEEN", x.had(0), 2);
         DUE.is("NOTES", x.looked(), -5);
+        // Glued from 30 to 33 its place in the ROW is another.
+        DUE.is("the PLAN", x.done(0), 1);
+        DUE.is("the PLAN", x.done(1), 2);
         DUE.is("THE TRACE is not in it", x.trace(0), 1);
         x.feed('a');
         x.feed('x');
@@ -151,7 +155,11 @@ public final class ActsTest {
         x.reader(3, 3);
         x.pass(40);
         x.see(-1, 0, true);
+        x.see(0, 2, false);
+        x.plan(-1, 1);
         x.plan(0, 1);
+        x.plan(2, 1);
+        x.note(-1, 1);
         x.note(1, 1);
         x.feed('z');
         x.feed('z');
@@ -187,6 +195,23 @@ public final class ActsTest {
         DUE.is("the next", Calls.town(x, "love 7 b=0"), 1);
         x.undo();
         DUE.is("the first holds", x.likes(0, 0), 8);
+    }
+
+    private static void imageKeepsWhatIsSeen() {
+        ThickerBook x = new ThickerBook();
+        Calls.books(x, 50, 40);
+        Calls.readers(x, 0, 0);
+        x.lend(0, 0);
+        // Taken on DAY 1, so that it is ON THE SHELF behind 1 DAY and not behind 2.
+        Calls.town(x, "love 1 b=1&d=1");
+        x.see(1, 1, true);
+        DUE.is("HAD", x.had(0), 1);
+        x.image();
+        x.see(-1, 0, true);
+        x.see(0, 2, false);
+        DUE.is("HAD by none", x.had(0), 0);
+        x.undo();
+        DUE.is("HAD again", x.had(0), 1);
     }
 
     private static void count() {

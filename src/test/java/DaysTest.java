@@ -10,11 +10,13 @@ public final class DaysTest {
         onBeyondTheLastDay();
         until();
         untilNever();
+        untilTheLast();
         few();
         changes();
         reachAndNever();
         most();
         mostOfSeveral();
+        mostFarAway();
         DUE.end();
     }
 
@@ -106,6 +108,26 @@ public final class DaysTest {
         DUE.is("wants none", x.until(0), 0);
     }
 
+    /** On every tenth DAY the one ahead takes what the one behind it left. */
+    private static void untilTheLast() {
+        ThickerBook x = new ThickerBook();
+        Calls.books(x, 50, 40, 30, 20, 10);
+        Calls.readers(x, 0, 0, 0, 0, 0, 0, 0, 0);
+        Calls.lend(x, 0, 1, 2, 3);
+        Calls.town(x, "love 1 d=9&(r=0&b=1|r=1&b=2|r=2&b=3|r=3&b=4)");
+        DUE.is("STUCK", x.until(1), 40);
+        DUE.is("the last takes", x.on(40, 0), 4);
+        DUE.is("ahead of the last", x.on(39, 0), 3);
+        DUE.is("RESTS", x.until(0), 0);
+        DUE.is("HAS", x.on(40, 10), 1);
+        DUE.is("HAS ahead", x.on(39, 10), 0);
+        x.pass(9);
+        DUE.is("RESTS behind DAY 9", x.until(0), 1);
+        DUE.is("STUCK", x.until(1), 31);
+        x.book(1);
+        DUE.is("MAY for good", x.until(1), -5);
+    }
+
     private static void few() {
         ThickerBook x = new ThickerBook();
         Calls.books(x, 50, 40, 30, 60, 40);
@@ -138,6 +160,10 @@ public final class DaysTest {
         DUE.is("both like more, the other", x.few(1, 0), 1);
         Calls.town(x, "love 5 r=1&b=0");
         DUE.is("one likes as much", x.few(1, 0), -5);
+        x.lend(0, -1);
+        x.reader(0, 0);
+        DUE.is("none to change for", x.few(0, 1), -5);
+        DUE.is("none to change for, the other", x.few(1, 0), -5);
     }
 
     private static void reachAndNever() {
@@ -187,5 +213,24 @@ public final class DaysTest {
         DUE.is("the first as a row", x.most(10), 0);
         DUE.is("the first as a row", x.most(11), 1);
         DUE.is("by how few of just that one", x.most(1), 2);
+    }
+
+    /** Of some hundred ways to HAVE them the one that all but needs the most GOES. */
+    private static void mostFarAway() {
+        ThickerBook x = new ThickerBook();
+        Calls.books(x, 70, 60, 50, 40, 30, 20, 10);
+        Calls.readers(x, 0, 0, 0, 0, 0, 0, 0, 0);
+        Calls.lend(x, 0, 1, 2, 3);
+        Calls.town(x, "love 9 r=0&b=1|r=1&b=2|r=2&b=3|r=3&b=6;love 2 b=6");
+        DUE.is("TOTAL", x.most(0), 4 * 9 + 2);
+        DUE.is("by how few", x.most(1), 4);
+        int[] has = {1, 2, 3, 6};
+        for (int r = 0; r < 4; r++) {
+            DUE.is("most(" + (10 + r) + ")", x.most(10 + r), has[r]);
+            DUE.is("few(" + r + ", 6)", x.few(r, 6), 1);
+            DUE.is("reach(" + r + ")", x.reach(r), 127 >> r << r);
+        }
+        DUE.is("few(0, 3): reader 3 makes room", x.few(0, 3), 2);
+        DUE.is("never()", x.never(), 0);
     }
 }

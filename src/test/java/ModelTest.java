@@ -30,7 +30,9 @@ public final class ModelTest {
     }
 
     private void go() {
-        if (random.nextInt(4) > 0) setUp();
+        int start = random.nextInt(4);
+        if (start == 1) setUpDeep();
+        if (start > 1) setUp();
         for (; made < CALLS && due.isFine(); made++) {
             if (!text.isEmpty()) {
                 int sign = text.charAt(0);
@@ -65,6 +67,22 @@ public final class ModelTest {
         }
         made += books + 2 * readers;
         if (random.nextInt(3) > 0) text = townText() + "#";
+    }
+
+    /** The four thickest are HELD, so that there are many GOES. */
+    private void setUpDeep() {
+        int thick = 99;
+        for (int b = 0; b < 7; b++) {
+            is("book", x.book(thick), m.book(thick));
+            thick -= 1 + random.nextInt(13);
+        }
+        for (int r = 0; r < 4; r++) {
+            int kind = random.nextInt(7);
+            is("reader", x.reader(kind, r), m.reader(kind, r));
+            is("lend", x.lend(r, r), m.lend(r, r));
+        }
+        made += 15;
+        text = townText() + "#";
     }
 
     private void is(String call, long got, long want) {

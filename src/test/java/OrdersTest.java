@@ -20,6 +20,7 @@ public final class OrdersTest {
         ThickerBook x = new ThickerBook();
         DUE.is("nobody: TOTAL", x.order(-1), 0);
         DUE.is("nobody: the first", x.order(0), -5);
+        orderOfOne();
         Calls.books(x, 60, 50, 40, 30);
         Calls.readers(x, 0, 0, 0, 0, 0, 0);
         Calls.lend(x, 0, 1, 2);
@@ -33,6 +34,16 @@ public final class OrdersTest {
         DUE.is("order(-2)", x.order(-2), -10001);
         DUE.is("order(4)", x.order(4), -10001);
         DUE.is("changes nothing", x.told(3), 0);
+    }
+
+    private static void orderOfOne() {
+        ThickerBook x = new ThickerBook();
+        Calls.books(x, 60, 50);
+        Calls.readers(x, 1, 0);
+        x.lend(0, 0);
+        DUE.is("one: TOTAL", x.order(-1), -10);
+        DUE.is("one: the first", x.order(0), 0);
+        DUE.is("one: the second", x.order(1), -5);
     }
 
     private static void orderOfSeveral() {

@@ -113,6 +113,9 @@ public final class PlansTest {
         Calls.readers(x, 0, 0, 0, 0);
         Calls.lend(x, 0, 1);
         DUE.is("no NOTES", x.looked(), -5);
+        x.lend(0, -1);
+        DUE.is("no NOTES, HAS none", x.looked(), -5);
+        x.lend(0, 0);
         x.note(1, 1);
         x.note(0, 0);
         DUE.is("all so", x.looked(), -5);

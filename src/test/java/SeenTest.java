@@ -10,6 +10,7 @@ public final class SeenTest {
         had();
         hadByNone();
         hadAnyDays();
+        seenOnTheLastDay();
         firm();
         firmByTests();
         odds();
@@ -92,6 +93,22 @@ public final class SeenTest {
         DUE.is("from DAY 1", x.had(0), Calls.bits(0, 1));
     }
 
+    private static void seenOnTheLastDay() {
+        ThickerBook x = new ThickerBook();
+        Calls.books(x, 50, 40, 30);
+        Calls.readers(x, 0, 0, 0, 0);
+        Calls.lend(x, 0, 1);
+        // Reader 1 takes book 2 on DAY 9, so reader 0 book 1 on DAY 19.
+        Calls.town(x, "love 1 d=9&(r=0&b=1|r=1&b=2)");
+        x.see(0, 20, true);
+        x.see(0, 19, false);
+        DUE.is("had(0)", x.had(0), 1);
+        DUE.is("firm(0, 0)", x.firm(0, 0), 10);
+        x.see(0, 20, false);
+        DUE.is("had(0)", x.had(0), 0);
+        DUE.is("firm(0, 0)", x.firm(0, 0), 0);
+    }
+
     private static void firm() {
         ThickerBook x = new ThickerBook();
         Calls.books(x, 50, 40);
@@ -146,6 +163,11 @@ public final class SeenTest {
         DUE.is("odds(0, 2)", x.odds(0, 2), ThickerBook.NO);
         DUE.is("odds(0, -1)", x.odds(0, -1), ThickerBook.NO);
         DUE.is("changes nothing", x.told(4), 8);
+        ThickerBook y = new ThickerBook();
+        Calls.books(y, 50);
+        Calls.readers(y, 0, 0);
+        DUE.is("one: sure", y.odds(0, 0), 1);
+        DUE.is("one: sure", y.odds(0, 1), 1);
     }
 
     private static void mean() {
@@ -172,5 +194,8 @@ public final class SeenTest {
         y.reader(0, 0);
         y.lend(0, 0);
         DUE.is("none ON THE SHELF", y.mean(3, 0), ThickerBook.NO);
+        y.book(14);
+        DUE.is("just one", y.mean(3, 0), 14);
+        DUE.is("just one", y.mean(3, 1), 1);
     }
 }

@@ -90,6 +90,10 @@ public final class TownsTest {
         fault("gap 01", 5);
         fault("gap 00", 5);
         fault("gap 123", 6);
+        fault("gap :", 4);
+        fault("gap /", 4);
+        fault("gap 1:", 5);
+        fault("gap 1/", 5);
         fault("gap 1 ", 5);
         fault("gap 1;", 6);
         fault("gap 1;;", 6);
@@ -102,6 +106,8 @@ public final class TownsTest {
         fault("bore 1 r", 8);
         fault("bore 1 r=", 9);
         fault("bore 1 r!1", 8);
+        fault("bore 1 r?1", 8);
+        fault("bore 1 r;1", 8);
         fault("bore 1 x=1", 7);
         fault("bore 1 r=01", 10);
         fault("bore 1 r=123", 11);
@@ -277,16 +283,26 @@ public final class TownsTest {
         Calls.town(x, "gap 0;love 6 b=1");
         x.book(90);
         DUE.is("GAP 0: one just as THICK is none", x.of(0, 4), Calls.bits(1));
+        ThickerBook y = new ThickerBook();
+        Calls.books(y, 98, 99);
+        Calls.readers(y, 1, 0, 0, 0);
+        y.lend(0, 1);
+        DUE.is("THIN: 98 for 99", y.of(0, 3), 0);
+        y.lend(0, -1);
+        y.lend(1, 1);
+        Calls.town(y, "love 1 b=0");
+        DUE.is("READER: the first of all", y.of(1, 3), 0);
+        DUE.is("MAY take the first of all", y.of(1, 4), Calls.bits(0));
     }
 
     private static void likes() {
-        // PLAIN 7 for book 0 (THICK 48), -4 for book 1 (THICK 9).
-        String text = "love 9 b=0;bore 2 t=4;bore 4 b=1";
-        int[] first = {7, 7 - 9, 14, 7, 7 - 9 + 6, 14 + 4, 7};
+        // PLAIN 7 for book 0 (THICK 60), -4 for book 1 (THICK 9).
+        String text = "love 9 b=0;bore 2 t=6;bore 4 b=1";
+        int[] first = {7, 7 - 12, 14, 7, 7 - 12 + 6, 14 + 6, 7};
         int[] second = {-4, -4 - 1, -8, -4, -4 - 1 + 6, -8, -4};
         for (int kind = 0; kind <= 6; kind++) {
             ThickerBook x = new ThickerBook();
-            Calls.books(x, 48, 9);
+            Calls.books(x, 60, 9);
             Calls.readers(x, kind, 6);
             Calls.town(x, text);
             DUE.is("likes(0, 0) of kind " + kind, x.likes(0, 0), first[kind]);
@@ -388,7 +404,13 @@ public final class TownsTest {
         DUE.is("MAY take none", x.come(1), 1);
         DUE.is("HAS none", x.come(2), -5);
         DUE.is("DAY stays", x.told(0), 0);
-        DUE.is("come(3)", x.come(3), -1);
+        x.reader(0, 4);
+        x.lend(3, 0);
+        DUE.is("likes none more", x.come(3), 0);
+        Calls.books(x, 10);
+        Calls.town(x, "love 1 v=4&b=3");
+        DUE.is("by the TOWN that holds", x.come(3), 3);
+        DUE.is("come(4)", x.come(4), -1);
         DUE.is("come(-1)", x.come(-1), -1);
     }
 
@@ -411,6 +433,16 @@ public final class TownsTest {
     }
 
     private static void pass() {
+        ThickerBook y = new ThickerBook();
+        Calls.books(y, 50, 40, 30);
+        Calls.readers(y, 0, 0);
+        y.lend(0, 0);
+        Calls.town(y, "love 5 b=1");
+        DUE.is("pass(1)", y.pass(1), 1);
+        DUE.is("by the TOWN that holds", y.of(0, 2), 1);
+        Calls.town(y, "love 5 b=2");
+        DUE.is("pass(1)", y.pass(1), 2);
+        DUE.is("by the next TOWN", y.of(0, 2), 2);
         ThickerBook x = new ThickerBook();
         Calls.books(x, 50, 40, 30, 20);
         Calls.readers(x, 0, 0, 1, 0);
@@ -423,11 +455,18 @@ public final class TownsTest {
         DUE.is("by numbers", x.of(1, 2), 3);
         DUE.is("pass(1)", x.pass(1), 2);
         DUE.is("by how DAY is as they COME", x.of(0, 2), 2);
+        x.lend(0, 0);
+        Calls.town(x, "love 5 r=0&b=2&t>3");
+        DUE.is("pass(0)", x.pass(0), 2);
+        x.lend(0, 2);
+        DUE.is("GLUES to 40", x.paste(0, true) + x.paste(0, true), 75);
+        x.lend(0, 0);
         DUE.is("pass(-1)", x.pass(-1), -2);
         DUE.is("pass(41)", x.pass(41), -2);
         for (int n = 1; n <= 249; n++) {
             DUE.is("pass(40)", x.pass(40), 2 + 40 * n);
         }
+        DUE.is("by how THICK it has become", x.of(0, 2), 2);
         DUE.is("too late", x.pass(38), -3);
         DUE.is("bad and too late", x.pass(99), -2);
         DUE.is("the last", x.pass(37), 9999);
