@@ -386,6 +386,20 @@ final class DayEdges {
             e.is("most(0)", x.most(0), 5);
             e.is("most(10)", x.most(10), 2);
         });
+        edges.edge("the last of 798 ways, by seven GOES", e -> {
+            int[] rows = {9, 8, 1, 0, 8, 9, 2, 8, 7, 5, 2, 3, 9, 0, 6, 1};
+            ThickerBook x = told(Calls.row(99, 96, 78, 61, 50, 34, 20), rows);
+            e.is("most(0)", x.most(0), 8 + 8 + 7 + 9);
+            e.is("most(1)", x.most(1), 7);
+            haves(e, x, 3, 0, 1, 6);
+        });
+        edges.edge("the last of all 840 ways", e -> {
+            int[] rows = {9, 3, 8, 8, 9, 2, 6, 0, 0, 2, 4, 5, 9, 5, 1, 6};
+            ThickerBook x = told(Calls.row(37, 95, 72, 90, 13, 2, 17), rows);
+            e.is("most(0)", x.most(0), 8 + 6 + 5 + 9);
+            e.is("most(1)", x.most(1), 4);
+            haves(e, x, 3, 5, 1, 2);
+        });
         edges.edge("HAS none", e -> {
             ThickerBook x = Calls.made(Calls.row(50, 40), Calls.row(0, 0, 0, 0), -1, 0);
             Calls.town(x, "love 1 b=1");
@@ -397,6 +411,21 @@ final class DayEdges {
             ThickerBook x = one("love 4 b=0;love 5 b=2", 50, 40, 30);
             e.unchanged("most(0)", x, () -> x.most(0));
         });
+    }
+
+    /** Four TOLD ones with these ROWS, each with the BOOK of its own number; what is due was searched apart from the class. */
+    private static ThickerBook told(int[] thick, int[] rows) {
+        ThickerBook x = Calls.made(thick, Calls.row(6, 0, 6, 0, 6, 0, 6, 0), 0, 1, 2, 3);
+        for (int i = 0; i < rows.length; i++) {
+            x.row(i / 4, i % 4, rows[i]);
+        }
+        return x;
+    }
+
+    private static void haves(Edge e, ThickerBook x, int... books) {
+        for (int r = 0; r < books.length; r++) {
+            e.is("most(" + (10 + r) + ")", x.most(10 + r), books[r]);
+        }
     }
 
     private static void mostOfSeveral(Edges edges) {

@@ -11,6 +11,7 @@ import java.util.Map;
 import java.util.Set;
 import java.util.TreeMap;
 import java.util.TreeSet;
+import java.util.function.BiConsumer;
 import java.util.function.Supplier;
 import java.util.regex.Matcher;
 import java.util.regex.Pattern;
@@ -87,8 +88,8 @@ public final class ReadmeTest {
         DUE.is("the examples as a program: the compiler", compiled, 0);
         if (compiled != 0) return;
         try (URLClassLoader loader = new URLClassLoader(new URL[] {directory.toUri().toURL()})) {
-            Method run = loader.loadClass("ReadmeExamples").getMethod("run", java.util.function.BiConsumer.class);
-            java.util.function.BiConsumer<String, long[]> is = (call, two) -> DUE.is(call, two[0], two[1]);
+            Method run = loader.loadClass("ReadmeExamples").getMethod("run", BiConsumer.class);
+            BiConsumer<String, long[]> is = (call, two) -> DUE.is(call, two[0], two[1]);
             run.invoke(null, is);
         }
     }
